@@ -92,6 +92,9 @@ public final class P09PermutedTest {
         x.rank(0, 4, 1, 2);
         due.same("permuted(0, 0), one rank missing", x.permuted(0, 0), -1);
         due.same("permuted(0, 1), one rank missing", x.permuted(0, 1), -1);
+        x.rank(0, 5, 1, 1);
+        x.rank(0, 5, 2, 2);
+        due.same("permuted(0, 0), the rank of sample 0 missing", x.permuted(0, 0), -1);
         rankAll(x, 0, 25, 3, 2);
         due.permuted(x, 0, 1, 1);
         rankAll(x, 0, 7, 3, 3);
