@@ -1,6 +1,6 @@
 /** Promise 14: how many of k answers to a triangle must be right. */
 public final class P14RowTest {
-    // From k = 1, as tables of the triangle test at 1/20 have them from k = 3 on.
+    // From k = 1, the same numbers that ../shared/tests has; the model reckons them again.
     private static final int[] ROW = {2, 3, 3, 4, 4, 5, 5, 6, 6, 7, 7, 8, 8, 9, 9, 9, 10, 10, 11, 11, 12, 12, 12, 13, 13, 14};
 
     public static void main(String[] args) {
