@@ -1,7 +1,38 @@
-/** Counts the calls whose answer is not the one that is due, and prints each. */
+import java.util.function.Consumer;
+
+/** Counts the calls whose answer is not the one that is due, sentence by sentence of the document, and prints each. */
 final class Due {
+    static final int LOWEST = Integer.MIN_VALUE;
+    static final int HIGHEST = Integer.MAX_VALUE;
+
+    private String sentence;
     private int calls;
     private int wrong;
+    private int allCalls;
+    private int held;
+    private int sentences;
+
+    /** Runs the tests of a file: one that dies breaks its sentence, and the others go on. */
+    @SafeVarargs
+    static void all(Consumer<Due>... tests) {
+        Due due = new Due();
+        for (Consumer<Due> test : tests) {
+            try {
+                test.accept(due);
+            } catch (RuntimeException e) {
+                e.printStackTrace(System.out);
+                due.note("a call", false, e.toString(), "an answer");
+            }
+            due.close();
+        }
+        due.end();
+    }
+
+    /** Begins the test of one sentence: its words in the document, and which case of it. */
+    void sentence(String words, String which) {
+        close();
+        sentence = '"' + words + "\": " + which;
+    }
 
     void same(String call, long got, long want) {
         note(call, got == want, Long.toString(got), Long.toString(want));
@@ -40,6 +71,24 @@ final class Due {
         return x;
     }
 
+    /** Makes so many tests of a kind more. */
+    static void tests(TasterPanels x, int count, int kind, int samples) {
+        for (int i = 0; i < count; i++) {
+            x.test(kind, samples);
+        }
+    }
+
+    /** How many samples a test of this kind has, a ranking here the fewest. */
+    static int samples(int kind) {
+        return kind == 0 ? 3 : 2;
+    }
+
+    /** Numbers that nothing bears when so many have been made of at most so many. */
+    static int[] strangers(int made, int most) {
+        int last = made < most ? most - 1 : most;
+        return new int[] {LOWEST, LOWEST + 1, -most, -2, -1, made, last, most, most + 1, 128, 1 << 16, HIGHEST - 1, HIGHEST};
+    }
+
     /** What a taster is served, up to the first NONE: "ABA", or "201" of a ranking. */
     static String servings(TasterPanels x, int test, int taster, boolean ranking) {
         StringBuilder row = new StringBuilder();
@@ -72,11 +121,20 @@ final class Due {
     /** Lets a taster answer, rightly or wrongly as told; whether the answer was taken. */
     static boolean answer(TasterPanels x, int test, int kind, int taster, boolean rightly) {
         int right = rightPlace(servings(x, test, taster, false), kind);
-        int places = kind == 0 ? 3 : 2;
-        return x.answer(test, taster, rightly ? right : (right + 1) % places);
+        return x.answer(test, taster, rightly ? right : (right + 1) % samples(kind));
+    }
+
+    /** Lets a taster rank all samples, sample 0 with this rank. */
+    static void rankAll(TasterPanels x, int test, int taster, int samples, int first) {
+        for (int sample = 0; sample < samples; sample++) {
+            x.rank(test, taster, sample, (first - 1 + sample) % samples + 1);
+        }
     }
 
     private void note(String call, boolean good, String got, String want) {
+        if (sentence == null) {
+            throw new IllegalStateException(call + " is looked at outside of any sentence");
+        }
         calls++;
         if (!good) {
             wrong++;
@@ -84,9 +142,25 @@ final class Due {
         }
     }
 
+    private void close() {
+        if (sentence == null) {
+            return;
+        }
+        // A sentence under which nothing was asked has no test.
+        boolean holds = wrong == 0 && calls != 0;
+        System.out.println((holds ? "  held   " : "  BROKEN ") + sentence);
+        sentences++;
+        held += holds ? 1 : 0;
+        allCalls += calls;
+        calls = 0;
+        wrong = 0;
+        sentence = null;
+    }
+
     void end() {
-        System.out.println(calls - wrong + " of " + calls + " answers are as due");
-        if (wrong != 0 || calls == 0) {
+        close();
+        System.out.println(held + " of " + sentences + " held, " + allCalls + " answers looked at");
+        if (held != sentences || sentences == 0) {
             System.exit(1);
         }
     }

@@ -28,6 +28,7 @@ public final class FaceTest {
 
     public static void main(String[] args) {
         Due due = new Due();
+        due.sentence("The public face", "the document's, and nothing more");
         due.same("the class", Modifier.toString(TasterPanels.class.getModifiers()), "public final");
         TreeSet<String> open = new TreeSet<>();
         TreeSet<String> names = new TreeSet<>();

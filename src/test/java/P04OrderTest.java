@@ -1,10 +1,6 @@
-import java.util.HashSet;
-import java.util.Set;
-
-/** Promise 4: what a taster is served; the orders are mixed in each block, and balanced. */
+/** Promise 4: what a taster is served. */
 public final class P04OrderTest {
     private static final int[][] TESTS = {{0, 3}, {1, 2}, {2, 2}, {3, 2}, {3, 3}, {3, 4}, {3, 5}};
-    private static final int[] ORDERS = {6, 2, 4, 2, 6, 24, 120};
 
     // Of tests 0 to 6, made as TESTS has them: reckoned by another program.
     private static final String[] SEED_7 = {
@@ -27,16 +23,17 @@ public final class P04OrderTest {
     };
 
     public static void main(String[] args) {
-        Due due = new Due();
-        rows(due, 7, SEED_7);
-        rows(due, Long.MAX_VALUE, SEED_HIGHEST);
-        againstModel(due);
-        for (long seed = -20; seed < 20; seed++) {
-            balanced(due, seed);
-        }
-        testsComeBeforeTasters(due);
-        wrongInputs(due);
-        due.end();
+        Due.all(
+            due -> rows(due, 7, SEED_7),
+            due -> rows(due, Long.MAX_VALUE, SEED_HIGHEST),
+            P04OrderTest::againstModel,
+            P04OrderTest::testsComeBeforeTasters,
+            P04OrderTest::staysTheSame,
+            P04OrderTest::fromZero,
+            P04OrderTest::noTest,
+            P04OrderTest::noTaster,
+            P04OrderTest::noNumber,
+            P04OrderTest::asksOnly);
     }
 
     private static TasterPanels made(long seed, int tasters) {
@@ -48,6 +45,7 @@ public final class P04OrderTest {
     }
 
     private static void rows(Due due, long seed, String[] want) {
+        due.sentence("0 for A, 1 for B, of a ranking the sample", "all that 26 tasters are served with seed " + seed);
         for (int test = 0; test < TESTS.length; test++) {
             TasterPanels x = made(seed, 26);
             String[] served = want[test].split(" ");
@@ -60,6 +58,7 @@ public final class P04OrderTest {
 
     /** The tests with the highest numbers too, each kind under every number. */
     private static void againstModel(Due due) {
+        due.sentence("What taster is served as number k, from 0, in a test", "each kind under each of the 40 numbers");
         for (int first = 0; first < TESTS.length; first++) {
             for (int taster = 0; taster < 26; taster += 5) {
                 ofOneTaster(due, first, taster);
@@ -84,20 +83,8 @@ public final class P04OrderTest {
         }
     }
 
-    private static void balanced(Due due, long seed) {
-        for (int test = 0; test < TESTS.length; test++) {
-            TasterPanels x = made(seed, 26);
-            for (int first = 0; first + ORDERS[test] <= 26; first += ORDERS[test]) {
-                Set<String> seen = new HashSet<>();
-                for (int j = 0; j < ORDERS[test]; j++) {
-                    seen.add(Due.servings(x, test, first + j, TESTS[test][0] == 3));
-                }
-                due.same("orders in the block from " + first + " of test " + test, seen.size(), ORDERS[test]);
-            }
-        }
-    }
-
     private static void testsComeBeforeTasters(Due due) {
+        due.sentence("What taster is served as number k, from 0, in a test", "a taster that came behind the test");
         TasterPanels x = made(7, 0);
         for (int taster = 0; taster < 26; taster++) {
             due.same("order(0, " + taster + ", 0) before the taster", x.order(0, taster, 0), -1);
@@ -106,21 +93,85 @@ public final class P04OrderTest {
         }
     }
 
-    private static void wrongInputs(Due due) {
-        TasterPanels x = made(1, 3);
+    private static void staysTheSame(Due due) {
+        due.sentence("What taster is served as number k, from 0, in a test", "the same before and behind an answer, and asked again");
+        TasterPanels x = made(7, 26);
+        for (int again = 0; again < 2; again++) {
+            for (int taster : new int[] {0, 5, 6, 25}) {
+                String want = SEED_7[0].split(" ")[taster];
+                due.same("taster " + taster, Due.servings(x, 0, taster, false), want);
+                x.answer(0, taster, 0);
+                due.same("taster " + taster + " behind its answer", Due.servings(x, 0, taster, false), want);
+                x.test(3, 5);
+                due.same("taster " + taster + " behind another test", Due.servings(x, 0, taster, false), want);
+            }
+        }
+    }
+
+    private static void fromZero(Due due) {
+        due.sentence("What taster is served as number k, from 0, in a test", "0 is the first number and -1 none");
+        TasterPanels x = made(7, 1);
+        for (int test = 0; test < TESTS.length; test++) {
+            int first = SEED_7[test].charAt(0) - (TESTS[test][0] == 3 ? '0' : 'A');
+            due.same("order(" + test + ", 0, 0)", x.order(test, 0, 0), first);
+            due.same("order(" + test + ", 0, -1)", x.order(test, 0, -1), -1);
+        }
+    }
+
+    private static void noTest(Due due) {
+        due.sentence("NONE when there is no such test, taster or number", "no such test: of none, of one, of seven, of 40");
+        for (int made : new int[] {0, 1, 7, 40}) {
+            TasterPanels x = Due.panel(1, 26);
+            Due.tests(x, made, 3, 5);
+            for (int test : Due.strangers(made, 40)) {
+                due.same("order(" + test + ", 0, 0) of " + made, x.order(test, 0, 0), -1);
+                due.same("order(" + test + ", 25, 4) of " + made, x.order(test, 25, 4), -1);
+            }
+            if (made > 0) {
+                due.same("the last of " + made, x.order(made - 1, 25, 4) >= 0, true);
+            }
+        }
+    }
+
+    private static void noTaster(Due due) {
+        due.sentence("NONE when there is no such test, taster or number", "no such taster: of none, of one, of seven, of 26");
+        for (int made : new int[] {0, 1, 7, 26}) {
+            TasterPanels x = made(1, made);
+            for (int taster : Due.strangers(made, 26)) {
+                for (int test = 0; test < TESTS.length; test++) {
+                    due.same("order(" + test + ", " + taster + ", 0) of " + made, x.order(test, taster, 0), -1);
+                }
+            }
+            for (int test = 0; made > 0 && test < TESTS.length; test++) {
+                due.same("the last of " + made, x.order(test, made - 1, 0) >= 0, true);
+            }
+        }
+    }
+
+    private static void noNumber(Due due) {
         int[] served = {3, 2, 3, 2, 3, 4, 5};
         for (int test = 0; test < TESTS.length; test++) {
-            due.same("the last of test " + test, x.order(test, 2, served[test] - 1) >= 0, true);
-            due.same("one more of test " + test, x.order(test, 2, served[test]), -1);
-            due.same("number -1 of test " + test, x.order(test, 2, -1), -1);
-            due.same("the highest number of test " + test, x.order(test, 2, Integer.MAX_VALUE), -1);
-            due.same("the lowest number of test " + test, x.order(test, 2, Integer.MIN_VALUE), -1);
+            due.sentence("NONE when there is no such test, taster or number",
+                "no such number: kind " + TESTS[test][0] + " with " + TESTS[test][1] + " samples");
+            TasterPanels x = made(1, 26);
+            for (int taster : new int[] {0, 25}) {
+                due.same("the last", x.order(test, taster, served[test] - 1) >= 0, true);
+                for (int k : Due.strangers(served[test], served[test])) {
+                    due.same("order(" + test + ", " + taster + ", " + k + ")", x.order(test, taster, k), -1);
+                }
+            }
         }
-        for (int wrong : new int[] {-1, 7, 39, 40, Integer.MAX_VALUE, Integer.MIN_VALUE}) {
-            due.same("order(" + wrong + ", 0, 0)", x.order(wrong, 0, 0), -1);
+    }
+
+    private static void asksOnly(Due due) {
+        due.sentence("What taster is served as number k, from 0, in a test", "asking changes nothing");
+        TasterPanels x = made(1, 2);
+        for (int i = 0; i < 100; i++) {
+            x.order(i % 8, i % 3, i % 6);
         }
-        for (int wrong : new int[] {-1, 3, 25, 26, Integer.MAX_VALUE, Integer.MIN_VALUE}) {
-            due.same("order(0, " + wrong + ", 0)", x.order(0, wrong, 0), -1);
-        }
+        due.same("answer(0, 0, 0)", x.answer(0, 0, 0), true);
+        due.same("rank(3, 1, 0, 1)", x.rank(3, 1, 0, 1), true);
+        due.same("taster()", x.taster(), 2);
+        due.same("test(0, 3)", x.test(0, 3), 7);
     }
 }

@@ -7,6 +7,7 @@ public final class RoomTest {
 
     public static void main(String[] args) {
         Due due = new Due();
+        due.sentence("An object is used for at most 512 calls after it has been made", "which make little");
         TasterPanels x = Due.panel(5, 26);
         dearest(x, 26);
         long before = bytes();
