@@ -5,12 +5,31 @@ final class Due {
     static final int LOWEST = Integer.MIN_VALUE;
     static final int HIGHEST = Integer.MAX_VALUE;
 
-    private String sentence;
+    // Far above what any file of tests needs: a call that does not end fails as well.
+    private static final long MOST_MILLIS = 300_000;
+
+    private volatile String sentence;
     private int calls;
     private int wrong;
     private int allCalls;
     private int held;
     private int sentences;
+
+    Due() {
+        Thread watch = new Thread(this::endUnended);
+        watch.setDaemon(true);
+        watch.start();
+    }
+
+    private void endUnended() {
+        try {
+            Thread.sleep(MOST_MILLIS);
+        } catch (InterruptedException e) {
+            return;
+        }
+        System.out.println("  BROKEN " + sentence + " has not ended");
+        Runtime.getRuntime().halt(1);
+    }
 
     /** Runs the tests of a file: one that dies breaks its sentence, and the others go on. */
     @SafeVarargs
